@@ -850,7 +850,7 @@ public final class NumberFunctions {
             waiting[depth]++;
         }
 
-        /** Each { goes on at its if or ifelse, which goes back into it; its } goes on behind. */
+        /** The first { goes on at its if or ifelse, which goes back into one; each } goes on behind. */
         private void joinChoice(int at) {
             int start = first[depth];
             onward[start] = at;
@@ -859,7 +859,6 @@ public final class NumberFunctions {
             if (waiting[depth] == 2) {
                 int otherStart = second[depth];
                 onward[otherStart - 1] = at + 1;
-                onward[otherStart] = at;
                 otherwise[at] = otherStart + 1;
             }
             waiting[depth] = 0;

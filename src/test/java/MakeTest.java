@@ -12,6 +12,7 @@ final class MakeTest {
         tellingOfStitched(t);
         tellingOfPrograms(t);
         rowMustHaveTheSamples(t);
+        droppedNumbersDoNotCount(t);
         functionsAreOfTheRowAsItWas(t);
         refusalLeavesAll(t);
         clearing(t);
@@ -53,6 +54,8 @@ final class MakeTest {
         t.x.drop();
         t.dueThrow("25, of no telling", IllegalStateException.class, () -> t.x.make(2, 1, 1));
         t.dueFault("what throws is not the last make", NumberFunctions.NONE, NumberFunctions.NONE);
+        t.dueThrow("call of the 25th", IndexOutOfBoundsException.class, () -> t.x.call(24));
+        t.due("call of the 24th", t.x.call(23), 1);
         t.due("clear", t.x.clear(), 24);
         t.tell(POWERS);
         t.due("from 0 again", t.x.make(2, 1, 1), 0);
@@ -212,6 +215,21 @@ final class MakeTest {
         t.tell(Trial.joined(input, input, input, new int[] {16}, output, output, output, output));
         t.due("the greatest table", t.x.make(0, 3, 4), NumberFunctions.NONE);
         t.dueFault("the greatest table", NumberFunctions.ROW, 64 * 64 * 64 * 4 * 2);
+    }
+
+    private static void droppedNumbersDoNotCount(Trial t) {
+        int[] falling = new int[40];
+        for (int i = 0; i < falling.length; i++) {
+            falling[i] = -i;
+        }
+        t.fresh();
+        t.row("{}");
+        t.tell(falling);
+        dueTelling(t, true, 4, 1, 1, 0, 1, 0, 1);
+        t.tell(falling);
+        dueTelling(t, true, 0, 1, 1, 0, 1, 1, 0, 1, 8, 0, 1, 0, 1);
+        t.tell(falling);
+        dueTelling(t, true, 2, 1, 1, 0, 1, 1, 0, 1);
     }
 
     private static void functionsAreOfTheRowAsItWas(Trial t) {

@@ -11,6 +11,7 @@ final class ProgramReadingTest {
         names(t);
         numerals(t);
         firstFaultWins(t);
+        readAnew(t);
         t.end();
     }
 
@@ -121,6 +122,18 @@ final class ProgramReadingTest {
         for (String none : "+ - . +. -. .5 -.5 +.5 5. -5. 1..2 1.2.3 1.2. --1 +-1 1- 1+ 1-2 1.-2 1.+2 1x 99999. 99999.x 0x10 1/2 /"
                 .split(" ")) {
             t.dueRefused("{ " + none + " }", NumberFunctions.WORD, 2);
+        }
+    }
+
+    /** What one row left unfinished is nothing to the next. */
+    private static void readAnew(Trial t) {
+        t.fresh();
+        int made = 0;
+        for (String broken : new String[] {"{ {} 1", "{ {} {} 1", "{ true { {} {", "{{{{{{{{{{{{{", "{} {}", "{ 1 foo"}) {
+            t.due(broken, t.makeProgram(broken, 1, 1), NumberFunctions.NONE);
+            t.due("behind " + broken, t.makeProgram("{true {1 add} if}", 1, 1), made);
+            t.dueOutputs("behind " + broken, made, ONE);
+            made++;
         }
     }
 

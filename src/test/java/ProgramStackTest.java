@@ -47,6 +47,8 @@ final class ProgramStackTest {
         t.dueFails("{ -1 copy }", AMOUNT, 2);
         t.dueFails("{ 2 copy }", EMPTY, 2);
         t.dueFails("{ 16383 copy }", EMPTY, 2);
+        t.dueFails("{ pop 1 copy }", EMPTY, 3);
+        t.dueFails("{ pop -1 copy }", AMOUNT, 3);
     }
 
     private static void indexes(Trial t) {
@@ -60,6 +62,10 @@ final class ProgramStackTest {
         t.dueFails("{ -1.5 index }", WHOLE, 2);
         t.dueFails("{ 1 index }", EMPTY, 2);
         t.dueFails("{ 16383 index }", EMPTY, 2);
+        t.dueFails("{ pop 0 index }", EMPTY, 3);
+        t.dueFails("{ pop true index }", SORT, 3);
+        t.dueFails("{ pop 0.5 index }", WHOLE, 3);
+        t.dueFails("{ pop -1 index }", AMOUNT, 3);
     }
 
     private static void rolls(Trial t) {

@@ -73,6 +73,7 @@ final class ProgramWordsTest {
         t.dueGives("16000 0.001 div -16000 0.001 div 16383.99999 -16383.99999 mul", MOST, -MOST, -MOST);
         t.dueGivesFrom(MOST, "{dup dup mul exch dup neg mul}", MOST, -MOST);
         t.dueGivesFrom(MOST, "{dup dup div exch dup neg div}", ONE, -ONE);
+        t.dueGivesFrom(3, "{dup 0.00002 div exch -0.00002 div}", 3 * ONE, -3 * ONE);
         t.dueFails("{ pop 1 0 div }", ZERO, 4);
         t.dueFails("{ pop 0 0 div }", ZERO, 4);
         t.dueFails("{ pop 1 0.000001 div }", ZERO, 4);

@@ -142,6 +142,10 @@ final class SamplesTest {
         t.tell(0, ONE, 1, 0, ONE, 1, 0, ONE, 3, 4);
         t.due("make", t.x.make(0, 1, 1), 5);
         t.dueOutputs("one place only", 5, 3);
+        t.tell(-7, -3, 2, 0, ONE, 1, 0, ONE, 0, ONE);
+        t.due("make", t.x.make(0, 1, 1), 6);
+        t.inputs(-4);
+        t.dueOutputs("a domain below 0", 6, 3 * ONE / 4);
     }
 
     private static void decoding(Trial t) {
