@@ -61,67 +61,53 @@ final class MakeTest {
         t.due("from 0 again", t.x.make(2, 1, 1), 0);
     }
 
-    private static void dueTelling(Trial t, boolean right, int kind, int inputs, int outputs, int... numbers) {
-        StringBuilder what = new StringBuilder("kind ").append(kind).append(" of");
-        for (int number : numbers) {
-            what.append(' ').append(number);
-        }
-        int before = t.x.clear();
-        t.due("no functions before", before, 0);
-        t.tell(numbers);
-        t.due(what.toString(), t.x.make(kind, inputs, outputs), right ? 0 : NumberFunctions.NONE);
-        t.dueFault(what.toString(), right ? NumberFunctions.NONE : NumberFunctions.TELLING, right ? NumberFunctions.NONE : 0);
-        t.due("left in the telling", t.x.drop(), right ? 0 : numbers.length);
-        t.due("functions", t.x.clear(), right ? 1 : 0);
-    }
-
     private static void tellingMustBeTheOneSaid(Trial t) {
         t.fresh();
         t.row("foo");
-        dueTelling(t, false, 4, 1, 1, 0, 1, 0);
-        dueTelling(t, false, 4, 1, 1, 0, 1, 0, 1, 0);
-        dueTelling(t, false, 4, 1, 1, 1, 0, 0, 1);
+        t.dueTold(false, 4, 1, 1, 0, 1, 0);
+        t.dueTold(false, 4, 1, 1, 0, 1, 0, 1, 0);
+        t.dueTold(false, 4, 1, 1, 1, 0, 0, 1);
         t.x.cut(0);
-        dueTelling(t, false, 0, 1, 1, 0, 1, 64, 0, 1, 16, 1, 0, 0, 1);
+        t.dueTold(false, 0, 1, 1, 0, 1, 64, 0, 1, 16, 1, 0, 0, 1);
     }
 
     private static void tellingOfSamples(Trial t) {
         t.fresh();
         t.row(new int[128]);
-        dueTelling(t, true, 0, 1, 1, 0, 1, 1, 0, 1, 8, 0, 1, 0, 1);
-        dueTelling(t, true, 0, 1, 1, 5, 5, 64, 9, -9, 16, 5, 5, 9, -9);
-        dueTelling(t, false, 0, 1, 1, 1, 0, 1, 0, 1, 8, 0, 1, 0, 1);
-        dueTelling(t, false, 0, 1, 1, 0, 1, 1, 0, 1, 8, 1, 0, 0, 1);
+        t.dueTold(true, 0, 1, 1, 0, 1, 1, 0, 1, 8, 0, 1, 0, 1);
+        t.dueTold(true, 0, 1, 1, 5, 5, 64, 9, -9, 16, 5, 5, 9, -9);
+        t.dueTold(false, 0, 1, 1, 1, 0, 1, 0, 1, 8, 0, 1, 0, 1);
+        t.dueTold(false, 0, 1, 1, 0, 1, 1, 0, 1, 8, 1, 0, 0, 1);
         for (int size : new int[] {0, -1, 65, Trial.ONE, Trial.MOST}) {
-            dueTelling(t, false, 0, 1, 1, 0, 1, size, 0, 1, 8, 0, 1, 0, 1);
+            t.dueTold(false, 0, 1, 1, 0, 1, size, 0, 1, 8, 0, 1, 0, 1);
         }
         for (int bits = -1; bits <= 33; bits++) {
             t.fresh();
             t.row(new int[2]);
             boolean right = bits == 1 || bits == 2 || bits == 4 || bits == 8 || bits == 12 || bits == 16;
-            dueTelling(t, right, 0, 1, 1, 0, 1, 1, 0, 1, bits, 0, 1, 0, 1);
+            t.dueTold(right, 0, 1, 1, 0, 1, 1, 0, 1, bits, 0, 1, 0, 1);
         }
         t.fresh();
         t.row(new int[2]);
-        dueTelling(t, false, 0, 1, 1, 0, 1, 1, 0, 1, 8, 0, 1, 0);
-        dueTelling(t, false, 0, 1, 1, 0, 1, 1, 0, 1, 8, 0, 1, 0, 1, 0);
-        dueTelling(t, true, 0, 2, 2, 0, 1, 1, 0, 1, 0, 1, 1, 0, 1, 8, 0, 1, 0, 1, 0, 1, 0, 1);
-        dueTelling(t, false, 0, 2, 2, 0, 1, 1, 0, 1, 1, 0, 1, 0, 1, 8, 0, 1, 0, 1, 0, 1, 0, 1);
-        dueTelling(t, false, 0, 2, 2, 0, 1, 1, 0, 1, 0, 1, 0, 0, 1, 8, 0, 1, 0, 1, 0, 1, 0, 1);
-        dueTelling(t, false, 0, 2, 2, 0, 1, 1, 0, 1, 0, 1, 1, 0, 1, 8, 0, 1, 0, 1, 1, 0, 0, 1);
+        t.dueTold(false, 0, 1, 1, 0, 1, 1, 0, 1, 8, 0, 1, 0);
+        t.dueTold(false, 0, 1, 1, 0, 1, 1, 0, 1, 8, 0, 1, 0, 1, 0);
+        t.dueTold(true, 0, 2, 2, 0, 1, 1, 0, 1, 0, 1, 1, 0, 1, 8, 0, 1, 0, 1, 0, 1, 0, 1);
+        t.dueTold(false, 0, 2, 2, 0, 1, 1, 0, 1, 1, 0, 1, 0, 1, 8, 0, 1, 0, 1, 0, 1, 0, 1);
+        t.dueTold(false, 0, 2, 2, 0, 1, 1, 0, 1, 0, 1, 0, 0, 1, 8, 0, 1, 0, 1, 0, 1, 0, 1);
+        t.dueTold(false, 0, 2, 2, 0, 1, 1, 0, 1, 0, 1, 1, 0, 1, 8, 0, 1, 0, 1, 1, 0, 0, 1);
     }
 
     private static void tellingOfPowers(Trial t) {
         t.fresh();
-        dueTelling(t, true, 2, 1, 1, 0, 0, 0, 5, -5);
-        dueTelling(t, true, 2, 1, 1, -5, 0, 16, 5, -5);
-        dueTelling(t, false, 2, 1, 1, 1, 0, 0, 5, -5);
-        dueTelling(t, false, 2, 1, 1, 0, 1, -1, 5, -5);
-        dueTelling(t, false, 2, 1, 1, 0, 1, 17, 5, -5);
-        dueTelling(t, false, 2, 1, 1, 0, 1, 1, 5);
-        dueTelling(t, false, 2, 1, 1, 0, 1, 1, 5, -5, 0);
-        dueTelling(t, true, 2, 1, 4, 0, 1, 1, 1, 2, 3, 4, 5, 6, 7, 8);
-        dueTelling(t, false, 2, 1, 4, 0, 1, 1, 1, 2, 3, 4, 5, 6);
+        t.dueTold(true, 2, 1, 1, 0, 0, 0, 5, -5);
+        t.dueTold(true, 2, 1, 1, -5, 0, 16, 5, -5);
+        t.dueTold(false, 2, 1, 1, 1, 0, 0, 5, -5);
+        t.dueTold(false, 2, 1, 1, 0, 1, -1, 5, -5);
+        t.dueTold(false, 2, 1, 1, 0, 1, 17, 5, -5);
+        t.dueTold(false, 2, 1, 1, 0, 1, 1, 5);
+        t.dueTold(false, 2, 1, 1, 0, 1, 1, 5, -5, 0);
+        t.dueTold(true, 2, 1, 4, 0, 1, 1, 1, 2, 3, 4, 5, 6, 7, 8);
+        t.dueTold(false, 2, 1, 4, 0, 1, 1, 1, 2, 3, 4, 5, 6);
     }
 
     /** Function 0 is of one input and output, 1 of two inputs, 2 of two outputs. */
@@ -173,13 +159,13 @@ final class MakeTest {
     private static void tellingOfPrograms(Trial t) {
         t.fresh();
         t.row("{}");
-        dueTelling(t, true, 4, 1, 1, 0, 0, 7, 7);
-        dueTelling(t, false, 4, 1, 1, 0, 1, 8, 7);
-        dueTelling(t, false, 4, 1, 1, 1, 0, 7, 8);
-        dueTelling(t, false, 4, 1, 1, 0, 1);
-        dueTelling(t, true, 4, 4, 4, 0, 1, 0, 1, 0, 1, 0, 1, 0, 1, 0, 1, 0, 1, 0, 1);
-        dueTelling(t, false, 4, 4, 4, 0, 1, 0, 1, 0, 1, 1, 0, 0, 1, 0, 1, 0, 1, 0, 1);
-        dueTelling(t, false, 4, 4, 4, 0, 1, 0, 1, 0, 1, 0, 1, 0, 1, 0, 1, 0, 1, 1, 0);
+        t.dueTold(true, 4, 1, 1, 0, 0, 7, 7);
+        t.dueTold(false, 4, 1, 1, 0, 1, 8, 7);
+        t.dueTold(false, 4, 1, 1, 1, 0, 7, 8);
+        t.dueTold(false, 4, 1, 1, 0, 1);
+        t.dueTold(true, 4, 4, 4, 0, 1, 0, 1, 0, 1, 0, 1, 0, 1, 0, 1, 0, 1, 0, 1);
+        t.dueTold(false, 4, 4, 4, 0, 1, 0, 1, 0, 1, 1, 0, 0, 1, 0, 1, 0, 1, 0, 1);
+        t.dueTold(false, 4, 4, 4, 0, 1, 0, 1, 0, 1, 0, 1, 0, 1, 0, 1, 0, 1, 1, 0);
     }
 
     private static void dueBytes(Trial t, int bytes, int size, int bits) {
@@ -225,11 +211,11 @@ final class MakeTest {
         t.fresh();
         t.row("{}");
         t.tell(falling);
-        dueTelling(t, true, 4, 1, 1, 0, 1, 0, 1);
+        t.dueTold(true, 4, 1, 1, 0, 1, 0, 1);
         t.tell(falling);
-        dueTelling(t, true, 0, 1, 1, 0, 1, 1, 0, 1, 8, 0, 1, 0, 1);
+        t.dueTold(true, 0, 1, 1, 0, 1, 1, 0, 1, 8, 0, 1, 0, 1);
         t.tell(falling);
-        dueTelling(t, true, 2, 1, 1, 0, 1, 1, 0, 1);
+        t.dueTold(true, 2, 1, 1, 0, 1, 1, 0, 1);
     }
 
     private static void functionsAreOfTheRowAsItWas(Trial t) {

@@ -9,16 +9,23 @@ final class Trial {
     NumberFunctions x = new NumberFunctions();
     private int asked = 0;
     private int wrong = 0;
+    private String sentence = "";
 
     void fresh() {
         x = new NumberFunctions();
+    }
+
+    /** What follows tests this sentence of the document, beginning with a new object. */
+    void says(String words) {
+        fresh();
+        sentence = "\"" + words + "\": ";
     }
 
     void due(String what, long got, long want) {
         asked++;
         if (got != want) {
             wrong++;
-            System.out.println(what + " answered " + got + ", due is " + want);
+            System.out.println(sentence + what + " answered " + got + ", due is " + want);
         }
     }
 
@@ -32,7 +39,7 @@ final class Trial {
         }
         if (got != want) {
             wrong++;
-            System.out.println(what + " threw " + got + ", due is " + want);
+            System.out.println(sentence + what + " threw " + got + ", due is " + want);
         }
     }
 
@@ -41,18 +48,26 @@ final class Trial {
         due(what + ": place", x.fault(1), place);
     }
 
-    /** The row is just these bytes. */
+    /** The row is just these bytes: first those that are no twenty, since a full row has room for them only then. */
     void row(int... bytes) {
         x.cut(0);
-        for (int i = 0; i < bytes.length; i += 20) {
-            int[] part = new int[5];
-            for (int k = 0; k < 20; k++) {
-                int sign = i + k < bytes.length ? bytes[i + k] & 255 : 0;
-                part[k / 4] = part[k / 4] << 8 | sign;
-            }
-            x.feed(part[0], part[1], part[2], part[3], part[4]);
+        int odd = bytes.length % 20;
+        if (odd > 0) {
+            feed(bytes, 0);
+            x.cut(odd);
         }
-        x.cut(bytes.length);
+        for (int i = odd; i < bytes.length; i += 20) {
+            feed(bytes, i);
+        }
+    }
+
+    private void feed(int[] bytes, int from) {
+        int[] part = new int[5];
+        for (int k = 0; k < 20; k++) {
+            int sign = from + k < bytes.length ? bytes[from + k] & 255 : 0;
+            part[k / 4] = part[k / 4] << 8 | sign;
+        }
+        x.feed(part[0], part[1], part[2], part[3], part[4]);
     }
 
     void row(String text) {
@@ -104,6 +119,35 @@ final class Trial {
     /** A new program of one input, 0, leaves these numbers above it; that input goes unseen. */
     void dueGives(String words, int... numbers) {
         dueGivesFrom(0, "{pop " + words + "}", numbers);
+    }
+
+    /** A new program of two inputs and one output gives this. */
+    void dueOfTwo(int a, int b, String word, int number) {
+        fresh();
+        makeProgram("{" + word + "}", 2, 1);
+        inputs(a, b);
+        dueOutputs(a + " " + b + " " + word, 0, number);
+    }
+
+    /** A new program of two inputs and one output has this fault at its only word. */
+    void dueFailsOfTwo(int a, int b, String word, int fault) {
+        fresh();
+        makeProgram("{" + word + "}", 2, 1);
+        inputs(a, b);
+        due(a + " " + b + " " + word + ": call", x.call(0), NumberFunctions.NONE);
+        dueFault(a + " " + b + " " + word, fault, 1);
+    }
+
+    /** The telling is this one, and a make of it goes through, or its fault is TELLING. */
+    void dueTold(boolean right, int kind, int inputs, int outputs, int... numbers) {
+        String what = "kind " + kind + " of " + Arrays.toString(numbers);
+        due(what + ": no function before", x.clear(), 0);
+        tell(numbers);
+        due(what, x.make(kind, inputs, outputs), right ? 0 : NumberFunctions.NONE);
+        int none = NumberFunctions.NONE;
+        dueFault(what, right ? none : NumberFunctions.TELLING, right ? none : 0);
+        due(what + ": left in the telling", x.drop(), right ? 0 : numbers.length);
+        due(what + ": functions", x.clear(), right ? 1 : 0);
     }
 
     /** A new program of one input gives these outputs. */
