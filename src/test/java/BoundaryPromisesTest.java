@@ -65,10 +65,10 @@ final class BoundaryPromisesTest {
         t.dueOutputs("all inputs", 0, 0, 0, 0, 0);
     }
 
-    private static void dueByte(Trial t, int at, int want) {
+    private static void dueFirstByte(Trial t, int want) {
         t.tell(0, 0, 1, 0, 0, 8, 0, MOST, 0, 255);
         int f = t.x.make(0, 1, 1);
-        t.dueOutputs("byte " + at, f, want);
+        t.dueOutputs("the first byte", f, want);
     }
 
     private static void feeding(Trial t) {
@@ -101,7 +101,7 @@ final class BoundaryPromisesTest {
         t.due("8192", t.x.feed(-1, -1, -1, -1, -1), 8192);
         t.due("8212", t.x.feed(0, 0, 0, 0, 0), NONE);
         t.due("8192 stay", t.x.cut(8192), 0);
-        dueByte(t, 0, 7);
+        dueFirstByte(t, 7);
         t.due("to the last one", t.x.cut(1), 8191);
         t.due("room again", t.x.feed(0, 0, 0, 0, 0), 21);
     }
@@ -116,7 +116,7 @@ final class BoundaryPromisesTest {
         t.due("just as many", t.x.cut(20), 0);
         t.due("one", t.x.cut(19), 1);
         t.due("all but one", t.x.cut(1), 18);
-        dueByte(t, 0, 1);
+        dueFirstByte(t, 1);
         t.due("new ones behind it", t.x.feed(0x55000000, 0, 0, 0, 0), 21);
         t.tell(0, ONE, 2, 0, ONE, 8, 0, MOST, 0, 255);
         t.x.make(0, 1, 1);

@@ -33,6 +33,7 @@ final class BoundaryReadingTest {
         manyBeforeShape(t);
         manyBeforeTheRest(t);
         shapeBeforeTheRest(t);
+        refusedRowsLeaveNothing(t);
         t.end();
     }
 
@@ -328,5 +329,16 @@ final class BoundaryReadingTest {
         t.dueRefused("{ {} 16384", SHAPE, 5);
         t.dueRefused("{ {}{} foo", SHAPE, 7);
         t.dueRefused("{ {}{} 16384", SHAPE, 7);
+    }
+
+    private static void refusedRowsLeaveNothing(Trial t) {
+        t.says("the program is the row, as it is then: a row that was refused before is no part of it");
+        int made = 0;
+        for (String broken : new String[] {"{{}", "{{}{}", "{{{}{}", "{true{{}{", Trial.times(13, "{"), "{}{", "{1 foo"}) {
+            t.due(broken, t.makeProgram(broken, 1, 1), NumberFunctions.NONE);
+            t.due("behind " + broken, t.makeProgram("{true {1 add} if}", 1, 1), made);
+            t.dueOutputs("behind " + broken, made, ONE);
+            made++;
+        }
     }
 }

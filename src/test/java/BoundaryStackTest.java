@@ -39,18 +39,23 @@ final class BoundaryStackTest {
         t.end();
     }
 
-    private static void inputsAreCut(Trial t) {
-        t.says("Inputs are cut to their DOMAINS");
-        t.row("{}");
-        t.tell(-1, 1, 5, 5, 2, 9, -9, -2, -MOST, MOST, -MOST, MOST, -MOST, MOST, -MOST, MOST);
-        t.due("make", t.x.make(4, 4, 4), 0);
+    /** Function 0 gives its four inputs, cut to -1 .. 1, 5 .. 5, 2 .. 9 and -9 .. -2. */
+    private static void dueCut(Trial t) {
         int[][] rows = {{-2, 4, 1, -10, -1, 5, 2, -9}, {-1, 5, 2, -9, -1, 5, 2, -9}, {0, 6, 3, -8, 0, 5, 3, -8},
             {1, 0, 9, -2, 1, 5, 9, -2}, {2, -5, 10, -1, 1, 5, 9, -2}, {MOST, MOST, MOST, MOST, 1, 5, 9, -2},
             {-MOST, -MOST, -MOST, -MOST, -1, 5, 2, -9}};
         for (int[] row : rows) {
             t.inputs(row[0], row[1], row[2], row[3]);
-            t.dueOutputs("four inputs", 0, row[4], row[5], row[6], row[7]);
+            t.dueOutputs("cut", 0, row[4], row[5], row[6], row[7]);
         }
+    }
+
+    private static void inputsAreCut(Trial t) {
+        t.says("Inputs are cut to their DOMAINS");
+        t.row("{}");
+        t.tell(-1, 1, 5, 5, 2, 9, -9, -2, -MOST, MOST, -MOST, MOST, -MOST, MOST, -MOST, MOST);
+        t.due("make", t.x.make(4, 4, 4), 0);
+        dueCut(t);
     }
 
     private static void lastInputOnTop(Trial t) {
@@ -271,6 +276,8 @@ final class BoundaryStackTest {
         t.dueGives("1 2 2 copy", ONE, 2 * ONE, ONE, 2 * ONE);
         t.dueGives("0 copy 4", 4 * ONE);
         t.dueGives("1 true 2 copy pop exch {5} if", ONE, ONE, 5 * ONE);
+        t.dueGives("true 1 copy {5} if exch {6} if", 5 * ONE, 6 * ONE);
+        t.dueGives("true 3 2 copy exch {5} if 4 -1 roll {6} if", 3 * ONE, 3 * ONE, 5 * ONE, 6 * ONE);
         t.dueFails("{ -1 copy }", AMOUNT, 2);
         t.dueFails("{ 2 copy }", EMPTY, 2);
         t.dueFails("{ 1 3 copy }", EMPTY, 3);
@@ -393,12 +400,6 @@ final class BoundaryStackTest {
         t.row("{}");
         t.tell(-MOST, MOST, -MOST, MOST, -MOST, MOST, -MOST, MOST, -1, 1, 5, 5, 2, 9, -9, -2);
         t.due("make", t.x.make(4, 4, 4), 0);
-        int[][] rows = {{-2, 4, 1, -10, -1, 5, 2, -9}, {-1, 5, 2, -9, -1, 5, 2, -9}, {0, 6, 3, -8, 0, 5, 3, -8},
-            {1, 0, 9, -2, 1, 5, 9, -2}, {2, -5, 10, -1, 1, 5, 9, -2}, {MOST, MOST, MOST, MOST, 1, 5, 9, -2},
-            {-MOST, -MOST, -MOST, -MOST, -1, 5, 2, -9}};
-        for (int[] row : rows) {
-            t.inputs(row[0], row[1], row[2], row[3]);
-            t.dueOutputs("four outputs", 0, row[4], row[5], row[6], row[7]);
-        }
+        dueCut(t);
     }
 }

@@ -24,6 +24,7 @@ final class BoundaryTermsTest {
         functionLimit(t);
         inputsAndOutputs(t);
         justTheNumbersSaid(t);
+        droppedNumbersAreNotTold(t);
         rowAndTellingAsTheyAreThen(t);
         tellingIsEmptyThen(t);
         lowIsNotAboveHigh(t);
@@ -234,6 +235,22 @@ final class BoundaryTermsTest {
         }
         t.tell(0, 9, 2, 0, 0, 5, 0, 1, 0, 1);
         t.due("10 numbers", t.x.make(3, 1, 1), 1);
+    }
+
+    private static void droppedNumbersAreNotTold(Trial t) {
+        t.says("just the numbers said: those dropped, or of an earlier make, are not told");
+        t.row("{}");
+        int[] falling = new int[40];
+        for (int i = 0; i < falling.length; i++) {
+            falling[i] = -i;
+        }
+        int[][] right = {SAMPLES, POWERS, {0, ONE, 0, ONE}};
+        int[] kinds = {0, 2, 4};
+        for (int i = 0; i < right.length; i++) {
+            t.tell(falling);
+            t.dueTold(true, kinds[i], 1, 1, right[i]);
+            t.dueTold(false, kinds[i], 1, 1, Arrays.copyOf(right[i], right[i].length - 1));
+        }
     }
 
     private static void rowAndTellingAsTheyAreThen(Trial t) {
